@@ -443,7 +443,7 @@ public final class FatBalance {
         }
 
         private void keepIfBetter() {
-            if (!isTrialPossible() || met && !isTrialBetter()) {
+            if (!isTrialPossible() || (met && !isTrialBetter())) {
                 return;
             }
             for (int place = 0; place < MOST_CHOSEN; place++) {

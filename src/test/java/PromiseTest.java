@@ -88,8 +88,9 @@ public final class PromiseTest {
         due("new: pay(0)", x.pay(0), -1);
         due("new: first lot", x.lot(1000, 1, 100), 0);
         due("new: no penalties", x.pay(0), 400);
-        due("new: nothing is chosen", x.standard(1, 0, 100), -1);
         due("new: no standard is met", x.share(0, 0), -1);
+        due("new: nothing is chosen", x.standard(1, 0, 100), -1);
+        due("new: still none is met", x.share(0, 0), -1);
         due("new: separating without rows", x.separate(0, 10, 100), 1);
         dueLot("new: cream", x, 1, 100, 1000, 0);
         dueLot("new: skim", x, 2, 900, 0, 0);
@@ -211,7 +212,10 @@ public final class PromiseTest {
         due("separated already", x.separate(0, 1, 2), -1);
         dueLot("skim without kilograms", x, 4, 0, 20, 935);
         due("solids of an empty lot", x.solids(4, 0, 1), true);
-        due("no kilograms", x.separate(4, 1, 2), -1);
+        due("skim without kilograms, and not e < f", x.separate(4, 1, 2), -1);
+        FatBalance empty = withLots(new long[] {1, 400, 900});
+        due("cream without kilograms", empty.separate(0, 1, 2), 1);
+        due("no kilograms, but e < f < c", empty.separate(1, 1, 1), -1);
         due("no rows at all lie below fat 0", withLots(new long[] {50, 0, 0}).separate(0, 1, 2), -1);
         due("row above the fat", highRow().separate(0, 1, 2), -1);
     }
@@ -316,6 +320,13 @@ public final class PromiseTest {
         due("two lots, at one end", two.standard(4000, 500, 10_000), 0);
         dueShare("two lots, at one end", two, 0, 0, 1);
         dueShare("two lots, at one end", two, 1, 1, 1);
+        FatBalance upright = withChosen(new long[] {10, 100, 900}, new long[] {10, 100, 500});
+        due("two lots of the same fat", upright.standard(100, 800, 10_000), 0);
+        dueShare("the same fat", upright, 0, 3, 4);
+        dueShare("the same fat", upright, 1, 1, 4);
+        due("two lots of the same fat, other fat", upright.standard(101, 800, 10_000), 1);
+        due("two lots of the same fat, before one end", upright.standard(100, 901, 10_000), 1);
+        due("two lots of the same fat, behind one end", upright.standard(100, 499, 10_000), 1);
         FatBalance three = withChosen(new long[] {10, 0, 0}, new long[] {10, 7, 0}, new long[] {10, 0, 11});
         due("three lots, inside", three.standard(1, 2, 10_000), 0);
         dueShare("three lots", three, 0, 52, 77);
