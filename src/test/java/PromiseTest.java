@@ -1,7 +1,5 @@
 /** Every promise of the document by hand: ordinary inputs, the edges it names, and wrong inputs. */
-public final class PromiseTest {
-    private static int wrong = 0;
-
+public final class PromiseTest extends Answers {
     public static void main(String[] args) {
         newObject();
         lotsAndTheirRanges();
@@ -22,56 +20,7 @@ public final class PromiseTest {
         rowsOfTheSeparator();
         rowsUpToTwenty();
         clearingTheChosen();
-        System.out.println(wrong == 0 ? "all answers are as due" : wrong + " answers are not as due");
-        if (wrong != 0) {
-            System.exit(1);
-        }
-    }
-
-    private static void due(String call, long got, long want) {
-        if (got != want) {
-            wrong++;
-            System.out.println(call + " answered " + got + ", due is " + want);
-        }
-    }
-
-    private static void due(String call, boolean got, boolean want) {
-        due(call, got ? 1 : 0, want ? 1 : 0);
-    }
-
-    /** Kilograms, fat and solids can be seen only through the yields of butter and powder and the pay. */
-    private static void dueLot(String what, FatBalance x, int lot, long kilograms, long fat, long solids) {
-        dueFraction(what + ", butter", x, lot, 1, kilograms * fat, 8200);
-        dueFraction(what + ", powder", x, lot, 2, kilograms * (fat + solids), 9700);
-        due(what + ", pay", x.pay(lot), kilograms * (4 * fat + 3 * solids) / 1000);
-    }
-
-    private static void dueFraction(String what, FatBalance x, int lot, int kind, long above, long below) {
-        long divisor = java.math.BigInteger.valueOf(above).gcd(java.math.BigInteger.valueOf(below)).longValue();
-        due(what + ", above", x.yieldOf(lot, kind, 0), above / divisor);
-        due(what + ", below", x.yieldOf(lot, kind, 1), below / divisor);
-    }
-
-    private static void dueShare(String what, FatBalance x, int lot, long above, long below) {
-        due(what + ", share(" + lot + ", 0)", x.share(lot, 0), above);
-        due(what + ", share(" + lot + ", 1)", x.share(lot, 1), below);
-    }
-
-    private static FatBalance withLots(long[]... lots) {
-        FatBalance x = new FatBalance();
-        for (long[] lot : lots) {
-            int number = x.lot(lot[0], lot[1], 10_000);
-            due("solids of a lot", x.solids(number, lot[2], 10_000), true);
-        }
-        return x;
-    }
-
-    private static FatBalance withChosen(long[]... lots) {
-        FatBalance x = withLots(lots);
-        for (int lot = 0; lot < lots.length; lot++) {
-            due("choosing a lot", x.choose(lot), true);
-        }
-        return x;
+        end();
     }
 
     private static void newObject() {
