@@ -8,23 +8,28 @@ import java.util.TreeMap;
 
 /** Long made-up runs against a plain model in big numbers, which finds standards in another way than the class. */
 public final class ModelTest {
-    private static final int RUNS = 600;
+    private static final int RUNS = 1500;
+    /** The document promises nothing behind the last of these. */
     private static final int CALLS = 512;
+    /** standard() and the shares of four chosen lots and of two others. */
+    private static final int MOST_CALLS_OF_A_STEP = 13;
     private static final long[] ODD = {0, 1, -1, 2, 3, 9_999, 10_000, 10_001, 1_000_000, 1_000_001, 1L << 32, (1L << 32) + 1,
         1L << 60, Long.MAX_VALUE, Long.MIN_VALUE, Integer.MAX_VALUE, Integer.MIN_VALUE};
     private static final long[] BELOWS = {1, 2, 4, 5, 10, 100, 1000, 10_000, 10_000, 10_000, 3, 7, 9_999};
 
     private static int wrong = 0;
     private static int met = 0;
+    private static int full = 0;
+    private static int calls = 0;
     private static long state = 20_261_115L;
 
     public static void main(String[] args) {
         for (int run = 0; run < RUNS; run++) {
             oneRun(run);
         }
-        if (met < 1000) {
+        if (met < 1000 || full < 1000) {
             wrong++;
-            System.out.println("only " + met + " standards were met: the runs try too little");
+            System.out.println("only " + met + " standards were met, " + full + " answers were FULL: the runs try too little");
         }
         System.out.println(wrong == 0 ? "all answers are as due" : wrong + " answers are not as due");
         if (wrong != 0) {
@@ -37,17 +42,23 @@ public final class ModelTest {
         Model model = new Model();
         // a coarse run has few different lots, so that standards meet corners, sides and lots that are alike
         long grain = new long[] {1, 1000, 2500, 100}[run % 4];
-        for (int call = 0; call < CALLS; call++) {
-            oneCall(run, x, model, grain);
+        calls = 0;
+        while (calls <= CALLS - MOST_CALLS_OF_A_STEP) {
+            oneStep(run, x, model, grain);
+        }
+        while (calls < CALLS) {
+            int lot = pick(model.lots.size() + 1);
+            due(run, "pay", x.pay(lot), model.pay(lot), lot);
         }
     }
 
-    private static void oneCall(int run, FatBalance x, Model m, long grain) {
+    private static void oneStep(int run, FatBalance x, Model m, long grain) {
         long a = parts(grain);
         long b = parts(grain);
         long below = pick(20) == 0 ? ODD[pick(ODD.length)] : grain > 1 ? 10_000 : BELOWS[pick(BELOWS.length)];
         int lot = pick(30) == 0 ? (int) ODD[pick(ODD.length)] : pick(m.lots.size() + 2) - 1;
-        switch (pick(14)) {
+        // some runs make many lots, so that they come to the last one
+        switch (run % 3 == 0 && pick(4) == 0 ? 0 : pick(14)) {
             case 0 -> { long k = weight(); due(run, "lot", x.lot(k, a, below), m.lot(k, a, below), k, a, below); }
             case 1, 2 -> { long s = a / 2 / grain * grain;
                 due(run, "solids", bit(x.solids(lot, s, below)), bit(m.solids(lot, s, below)), lot, s, below); }
@@ -58,10 +69,9 @@ public final class ModelTest {
                 long got = x.standard(want[0], want[1], want[2]);
                 met += got == 0 ? 1 : 0;
                 due(run, "standard", got, m.standard(want[0], want[1], want[2]), want);
-                for (int i = 0; i < m.lots.size(); i++) {
-                    due(run, "share", x.share(i, 0), m.share(i, 0), i, 0);
-                    due(run, "share", x.share(i, 1), m.share(i, 1), i, 1);
-                } }
+                m.chosen.forEach(i -> dueShare(run, x, m, i));
+                dueShare(run, x, m, pick(m.lots.size() + 1));
+                dueShare(run, x, m, lot); }
             case 9 -> { int part = pick(4) - 1; due(run, "share", x.share(lot, part), m.share(lot, part), lot, part); }
             case 10 -> { int kind = pick(5) - 1; int part = pick(5) - 1;
                 due(run, "yieldOf", x.yieldOf(lot, kind, part), m.yieldOf(lot, kind, part), lot, kind, part); }
@@ -73,8 +83,13 @@ public final class ModelTest {
                 if (pick(3) == 0) {
                     due(run, "penalty", bit(x.penalty(a, b / 10)), bit(m.penalty(a, b / 10)), a, b / 10);
                 } }
-            default -> { if (pick(6) == 0) { x.clearChosen(); m.chosen.clear(); } }
+            default -> { if (pick(6) == 0) { calls++; x.clearChosen(); m.chosen.clear(); } }
         }
+    }
+
+    private static void dueShare(int run, FatBalance x, Model m, int lot) {
+        due(run, "share", x.share(lot, 0), m.share(lot, 0), lot, 0);
+        due(run, "share", x.share(lot, 1), m.share(lot, 1), lot, 1);
     }
 
     /** Often a point that the chosen lots can meet: one of them, or a middle of some. */
@@ -94,7 +109,10 @@ public final class ModelTest {
         return sum == 0 ? new long[] {a, b, below} : new long[] {fat / sum, solids / sum, 10_000};
     }
 
+    /** One call of the class, and its answer. */
     private static void due(int run, String call, long got, long want, long... arguments) {
+        calls++;
+        full += want == -2 ? 1 : 0;
         if (got != want) {
             wrong++;
             if (wrong <= 50) {
